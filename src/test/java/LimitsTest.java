@@ -6,6 +6,11 @@ public final class LimitsTest {
 
     public static void main(String[] args) {
         onlyAuthors();
+        only512Authors();
+        only511Books();
+        theLastCallIsAFlush();
+        theLastCallIsAWrite();
+        refusedCallsUpToTheLast();
         oneAuthorWithManyBooks();
         manyRings();
         manyAuthorsWithOneFavourite();
@@ -20,6 +25,65 @@ public final class LimitsTest {
         }
         Check.same("a third of them", x.flush(1), 170);
         Check.same("the last", x.written(169), 2 * 508);
+    }
+
+    // "An object is used for at most 512 calls": each of them may make an object.
+    private static void only512Authors() {
+        ObjectMapper x = new ObjectMapper();
+        for (int i = 0; i < 512; i++) {
+            Check.same("author", x.makeAuthor(i % 3, 1000), i);
+        }
+    }
+
+    private static void only511Books() {
+        ObjectMapper x = new ObjectMapper();
+        x.makeAuthor(2, 0);
+        for (int i = 0; i < 511; i++) {
+            Check.same("book", x.makeBook(2, 1000, 0), i);
+        }
+    }
+
+    private static void theLastCallIsAFlush() {
+        ObjectMapper x = new ObjectMapper();
+        for (int i = 0; i < 511; i++) {
+            x.makeAuthor(0, i);
+        }
+        Check.same("call 512", x.flush(0), 511);
+        ObjectMapper y = new ObjectMapper();
+        for (int i = 0; i < 255; i++) {
+            y.makeAuthor(1, i);
+        }
+        y.makeBook(1, 0, 0);
+        for (int i = 0; i < 255; i++) {
+            y.setReference(1, AUTHOR, i, 0);
+        }
+        Check.same("call 512, with a second write for each author", y.flush(1), 255 + 1 + 255);
+    }
+
+    // Two writes for a call are about the most: a book is made by one, and goes with its author.
+    private static void theLastCallIsAWrite() {
+        ObjectMapper x = new ObjectMapper();
+        x.makeAuthor(0, 1);
+        for (int i = 0; i < 507; i++) {
+            x.makeBook(0, i, 0);
+        }
+        Check.same("inserts", x.flush(0), 508);
+        Check.same("removed", x.remove(0, AUTHOR, 0), 508);
+        Check.same("deletes", x.flush(0), 508);
+        Check.same("call 512", x.written(1015), 0);
+    }
+
+    private static void refusedCallsUpToTheLast() {
+        ObjectMapper x = new ObjectMapper();
+        for (int i = 0; i < 127; i++) {
+            Check.badArgument("a name that is too large", () -> x.makeAuthor(0, 1001));
+            Check.badState("no author", () -> x.makeBook(0, 5, 0));
+            Check.noSession("no session", () -> x.flush(3));
+            Check.same("nothing is found", x.find(0, AUTHOR, i), false);
+        }
+        Check.same("the first key is free still", x.makeAuthor(0, 5), 0);
+        Check.same("and the first book's", x.makeBook(0, 5, 0), 0);
+        Check.same("writes", x.flush(0), 2);
     }
 
     private static void oneAuthorWithManyBooks() {

@@ -5,6 +5,8 @@ public final class NothingChangesTest {
     private static final int[] KINDS = {Integer.MIN_VALUE, -1, 0, 1, 2, Integer.MAX_VALUE};
     private static final int[] NUMBERS = {Integer.MIN_VALUE, -2, -1, 0, 1, 2, 3, 4, 1000, 1001, Integer.MAX_VALUE};
 
+    private static final String LATER = State.afterwards(prepared(), KEYS);
+
     private static ObjectMapper x;
 
     public static void main(String[] args) {
@@ -63,7 +65,9 @@ public final class NothingChangesTest {
         }
         x = prepared();
         expect("known(" + session + ")", noSession, false, false, () -> x.known(session));
+        x = prepared();
         expect("dirty(" + session + ")", noSession, false, false, () -> x.dirty(session));
+        x = prepared();
         expect("clear(" + session + ")", noSession, false, false, () -> x.clear(session));
         x = prepared();
         expect("flush(" + session + ")", noSession, false, session == 2, () -> x.flush(session));
@@ -76,7 +80,9 @@ public final class NothingChangesTest {
         boolean badKind = kind < 0 || kind > 1;
         boolean notLive = !noSession && !badKind && !live(session, kind, key);
         expect("name" + of + ")", noSession, badKind, notLive, () -> x.name(session, kind, key));
+        x = prepared();
         expect("reference" + of + ")", noSession, badKind, notLive, () -> x.reference(session, kind, key));
+        x = prepared();
         expect("find" + of + ")", noSession, badKind, false, () -> x.find(session, kind, key));
         x = prepared();
         expect("remove" + of + ")", noSession, badKind, notLive, () -> x.remove(session, kind, key));
@@ -106,5 +112,6 @@ public final class NothingChangesTest {
             return;
         }
         Check.same(what + " changes nothing", State.of(x, KEYS), before);
+        Check.same(what + " changes nothing that shows later", State.afterwards(x, KEYS), LATER);
     }
 }

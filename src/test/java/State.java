@@ -56,6 +56,35 @@ final class State {
         }
     }
 
+    /**
+     * What cannot be asked for, but shows later: which objects a session knows as removed, and which snapshots they
+     * have. It finds everything, flushes each session, and clears it, so that the mapper is worn out by it.
+     */
+    static String afterwards(ObjectMapper x, int keys) {
+        StringBuilder text = new StringBuilder();
+        for (int session = 0; session < SESSIONS; session++) {
+            text.append("\nsession ").append(session).append(" finds");
+            for (int kind = 0; kind < 2; kind++) {
+                for (int key = 0; key < keys; key++) {
+                    text.append(x.find(session, kind, key) ? " 1" : " 0");
+                }
+            }
+            text.append(of(x, keys)).append("\nflush ").append(flush(x, session)).append(of(x, keys));
+            text.append("\nclear ").append(x.clear(session));
+        }
+        return text.append(" next keys ").append(x.makeAuthor(0, 0)).append(' ')
+                .append(x.makeBook(0, 0, x.makeAuthor(0, 0))).toString();
+    }
+
+    /** How many writes a flush does, or that it fails. */
+    static String flush(ObjectMapper x, int session) {
+        try {
+            return x.flush(session) + " writes";
+        } catch (IllegalStateException e) {
+            return "fails";
+        }
+    }
+
     private static void appendObject(StringBuilder text, ObjectMapper x, int session, int kind, int key) {
         text.append(" [").append(object(x, session, kind, key)).append(']');
     }
