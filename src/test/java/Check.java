@@ -41,6 +41,11 @@ final class Check {
         throwing(what, call, IllegalStateException.class);
     }
 
+    /** Whether no fault was found as yet. */
+    static boolean clean() {
+        return wrong == 0;
+    }
+
     static void fault(String text) {
         wrong++;
         System.out.println(text);

@@ -21,6 +21,11 @@ final class PlainModel {
         boolean isDirty() {
             return snapshot != null && (name != snapshot.name || reference != snapshot.reference);
         }
+
+        @Override
+        public String toString() {
+            return name + " " + reference + " " + snapshot + (removed ? " removed" : "");
+        }
     }
 
     private static final class Fails extends Exception {
@@ -38,8 +43,18 @@ final class PlainModel {
         }
     }
 
+    /** All that later answers hang on, but for the writes that were done. */
+    String state() {
+        return nextKey[0] + " " + nextKey[1] + tables + sessions;
+    }
+
     int keys(int kind) {
         return nextKey[kind];
+    }
+
+    /** The keys of the rows of a kind. */
+    List<Integer> rowKeys(int kind) {
+        return new ArrayList<>(tables.get(kind).keySet());
     }
 
     /** The keys of the objects that a session knows and that are not removed. */
